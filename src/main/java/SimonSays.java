@@ -431,7 +431,6 @@ public final class SimonSays {
             end = start + 1;
             int first = text.byteAt(start);
             if (first < 0) {
-                end = start;
                 token = END;
             } else if (isLetter(first)) {
                 advanceOverWord();

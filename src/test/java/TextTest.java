@@ -195,6 +195,11 @@ public final class TextTest {
         fault("chil 1 2 9;", 0);
         fault("childs 1 2 9;", 0);
         fault("childchild 1 2 9;", 0);
+        fault("childa 1 2 9;", 0);
+        fault("childz 1 2 9;", 0);
+        fault("xhild 1 2 9;", 0);
+        fault("chilx 1 2 9;", 0);
+        fault("child 1 2 9;xittle 0;", 12);
         fault("  littl 1;", 2);
         fault("littles 1;", 0);
         fault("child 1 2 9; a", 13);
