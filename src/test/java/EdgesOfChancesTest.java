@@ -74,6 +74,7 @@ public final class EdgesOfChancesTest {
         edges.of(16, "BEST of n (0 .. 3): n ORDERS", EdgesOfChancesTest::bestOfEachLength);
         edges.of(16, "of several the least number", EdgesOfChancesTest::bestLeastOfSeveral);
         edges.of(16, "the row by which that is most: the last one", EdgesOfChancesTest::bestLastRow);
+        edges.of(16, "the row by which that is most: of all rows", EdgesOfChancesTest::bestOfAllRows);
     }
 
     private static void luring(Edges edges) {
@@ -558,6 +559,35 @@ public final class EdgesOfChancesTest {
         left(due, x, 444, 999, 1000);
         left(due, x, 443, 3, 500);
         left(due, x, 222, 124, 125);
+    }
+
+    private static void bestOfAllRows(Due due) {
+        String[] texts = {"child 0 3 9;child 8 1 9;child 4 5 9;", "child 1 0 9;child 1 0 9;child 1 4 1;", "child 7 6 9;child 2 1 9;child 5 5 0;",
+            "child 0 1 9;child 0 1 9;child 0 2 9;child 0 2 9;", "child 2 0 9;child 3 0 9;child 3 0 9;child 9 9 9;child 1 1 9;child 0 4 9;"};
+        for (String text : texts) {
+            for (int streak = 0; streak <= 9; streak += 3) {
+                SimonSays x = withStreak(text, streak);
+                for (int n = 1; n <= 3; n++) {
+                    due.is("best(" + n + "), STREAK " + streak + ", " + text, x.best(n), bestByAllRows(x, n));
+                }
+            }
+        }
+    }
+
+    /** LEFT of each row of n ORDERS, brought over 10^18, by the numbers of the rows. */
+    private static int bestByAllRows(SimonSays x, int n) {
+        int best = 0;
+        long most = -1;
+        for (int row = 1; row <= 444; row++) {
+            if (Integer.toString(row).matches("[1-4]{" + n + "}")) {
+                long chance = x.left(row, 0) * (1000000000000000000L / x.left(row, 1));
+                if (chance > most) {
+                    most = chance;
+                    best = row;
+                }
+            }
+        }
+        return best;
     }
 
     // ---- promise 17

@@ -622,7 +622,10 @@ public final class EdgesOfTextTest {
     }
 
     private static void wordsThatAreNone(Due due) {
-        for (String word : new String[] {"a", "z", "chil", "childs", "hild", "children", "cihld", "littl", "littles", "ittle", "little" + "child", "child" + "child"}) {
+        String[] none = {"a", "z", "chil", "childs", "hild", "xhild", "chxld", "chilx", "cihld", "children", "childchild",
+            "littl", "littles", "ittle", "xittle", "litxle", "littlx", "littel", "littlechild"};
+        for (String word : none) {
+            fault(due, word + " 1 2 9;", 0);
             fault(due, ONE + word + " 0;", 12);
         }
         fault(due, "x".repeat(200), 0);

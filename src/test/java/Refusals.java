@@ -56,7 +56,7 @@ final class Refusals {
         x.rate(4, 0);
         x.lot(-77);
         Due.typed(x, "child 7 6");
-        return x;
+        return as(x, 23, 2, 4, 9);
     }
 
     /** Six children, 200 bytes, STREAK 9, twelve to be undone, both images are kept. */
@@ -71,7 +71,7 @@ final class Refusals {
         }
         x.keep(1);
         Due.typed(x, "child 1 2 9;" + " ".repeat(188));
-        return x;
+        return as(x, 63, 9, 12, 200);
     }
 
     /** Three children, all out, each image kept, a text with a fault. */
@@ -82,6 +82,14 @@ final class Refusals {
         x.call(2);
         x.keep(1);
         Due.typed(x, "child 1 2 9;;");
+        return as(x, 0, 0, 2, 13);
+    }
+
+    /** A state that is not the one that is told here would let a test hold without meaning. */
+    private static SimonSays as(SimonSays x, int in, int streak, int undone, int bytes) {
+        if (x.now(0) != in || x.now(1) != streak || x.now(3) != undone || x.count(3) != bytes) {
+            throw new IllegalStateException("in " + x.now(0) + ", STREAK " + x.now(1) + ", to be undone " + x.now(3));
+        }
         return x;
     }
 }

@@ -6,8 +6,10 @@ import java.nio.charset.StandardCharsets;
 import java.nio.file.Files;
 import java.nio.file.Path;
 import java.util.Arrays;
+import java.util.List;
 import java.util.Set;
 import java.util.TreeSet;
+import java.util.function.Supplier;
 import java.util.regex.Matcher;
 import java.util.regex.Pattern;
 
@@ -21,6 +23,8 @@ public final class RulesTest {
         "long left(int, int)", "int best(int)", "int lure(int, int)", "int could(int)", "int likeliest(int)",
         "int rate(int, int)", "int keep(int)", "int back(int)", "int count(int)", "long trace()",
         "SimonSays()", "BAD", "STATE", "FULL", "NONE", "NO"};
+    private static final int[] ODD = {Integer.MIN_VALUE, Integer.MIN_VALUE + 1, -65536, -33, -2, -1, 0, 1, 2, 3, 4, 5, 6, 7, 9, 10,
+        31, 32, 33, 63, 64, 200, 444, 1111, 1 << 16, 444444444, 1111111111, Integer.MAX_VALUE};
     private static final String[] FORBIDDEN = {
         "\\b(throw|throws|try|catch|finally|synchronized|assert|import|package|var|record|enum|instanceof)\\b",
         "->", "::", "\\w+Exception\\b", "\\bError\\b", "\\b(equals|hashCode|toString)\\b", "\\bSystem\\.(?!arraycopy)",
@@ -28,7 +32,9 @@ public final class RulesTest {
 
     public static void main(String[] args) throws Exception {
         face();
+        sizes();
         source();
+        noCallThrows();
         noObjectIsMadeByACall();
         DUE.finish();
     }
@@ -79,6 +85,30 @@ public final class RulesTest {
         DUE.isTrue(member + " is public", Modifier.isPublic(member.getModifiers()));
     }
 
+    /** Rule 11: some twelve classes, some twenty fields a class beside its constants, seven parameters. */
+    private static void sizes() {
+        Class<?>[] inside = SimonSays.class.getDeclaredClasses();
+        DUE.isTrue("classes in the file: " + (inside.length + 1), inside.length + 1 <= 12);
+        sizesOf(SimonSays.class);
+        for (Class<?> one : inside) {
+            sizesOf(one);
+            DUE.isTrue("classes inside " + one, one.getDeclaredClasses().length == 0);
+        }
+    }
+
+    private static void sizesOf(Class<?> one) {
+        int fields = 0;
+        for (Field field : one.getDeclaredFields()) {
+            boolean fixed = Modifier.isStatic(field.getModifiers());
+            fields += fixed ? 0 : 1;
+            DUE.isTrue(field + " is final, if it is static", !fixed || Modifier.isFinal(field.getModifiers()));
+        }
+        DUE.isTrue("fields of " + one + ": " + fields, fields <= 20);
+        for (Method method : one.getDeclaredMethods()) {
+            DUE.isTrue(method + " takes seven parameters at most", method.getParameterCount() <= 7);
+        }
+    }
+
     private static void source() throws Exception {
         String source = Files.readString(Path.of("src/main/java/SimonSays.java"), StandardCharsets.ISO_8859_1);
         DUE.isTrue("all signs are 1 to 127", source.chars().allMatch(sign -> sign > 0 && sign < 128));
@@ -87,6 +117,50 @@ public final class RulesTest {
             Matcher matcher = Pattern.compile(forbidden).matcher(bare);
             DUE.isTrue("no " + forbidden, !matcher.find());
         }
+    }
+
+    /** Rule 7: for any arguments in any state. What throws ends this test, and so does what answers below a refusal. */
+    private static void noCallThrows() {
+        List<Supplier<SimonSays>> states = List.of(SimonSays::new, Refusals::amid, Refusals::full, Refusals::nobodyIn);
+        for (Supplier<SimonSays> state : states) {
+            for (int a : ODD) {
+                oneArgument(state, a);
+                for (int b : ODD) {
+                    twoArguments(state, a, b);
+                    for (int c : ODD) {
+                        answered("falls", state.get().falls(a, b, c), -1);
+                        answered("many", state.get().many(a, b, c), -1);
+                        answered("stays", state.get().stays(a, b, c), -1);
+                    }
+                }
+            }
+        }
+    }
+
+    private static void oneArgument(Supplier<SimonSays> state, int a) {
+        answered("now", state.get().now(a), -1);
+        answered("call", state.get().call(a), -2);
+        answered("comesBack", state.get().comesBack(a), -2);
+        answered("lot", state.get().lot(a), Integer.MIN_VALUE);
+        answered("best", state.get().best(a), -1);
+        answered("could", state.get().could(a), -1);
+        answered("likeliest", state.get().likeliest(a), -9);
+        answered("keep", state.get().keep(a), -1);
+        answered("back", state.get().back(a), -2);
+        answered("count", state.get().count(a), -1);
+    }
+
+    private static void twoArguments(Supplier<SimonSays> state, int a, int b) {
+        answered("type", state.get().type((long) a << 32 ^ b, b), -3);
+        answered("child", state.get().child(a, b), -9);
+        answered("errs", state.get().errs(a, b), -2);
+        answered("left", state.get().left(a, b), -1);
+        answered("lure", state.get().lure(a, b), -9);
+        answered("rate", state.get().rate(a, b), -1000000);
+    }
+
+    private static void answered(String call, long answer, long least) {
+        DUE.isTrue(call + " answered " + answer, answer >= least);
     }
 
     /** All calls of one run live in one room: whatever they ask, they must not fill it. */
