@@ -15,7 +15,7 @@ final class Edges {
         this.test = test;
     }
 
-    /** The words are the document's own, so that they can be found there. */
+    /** The words are the document's where it has them, so that the sentence can be found there. */
     void of(int promise, String words, Edge edge) {
         Due due = new Due(test + ", promise " + promise + " \"" + words + "\"");
         edge.look(due);
