@@ -353,7 +353,8 @@ public final class SimonSays {
                 if (token == END) {
                     return items;
                 }
-                if (!readItem()) {
+                boolean read = token == CHILD ? readChild() : token == LITTLE && readLittle();
+                if (!read) {
                     return -1;
                 }
             }
@@ -367,13 +368,6 @@ public final class SimonSays {
 
         Children found() {
             return found;
-        }
-
-        private boolean readItem() {
-            if (token == CHILD) {
-                return readChild();
-            }
-            return token == LITTLE && readLittle();
         }
 
         private boolean readChild() {

@@ -25,6 +25,7 @@ public final class RulesTest {
         "SimonSays()", "BAD", "STATE", "FULL", "NONE", "NO"};
     private static final int[] ODD = {Integer.MIN_VALUE, Integer.MIN_VALUE + 1, -65536, -33, -2, -1, 0, 1, 2, 3, 4, 5, 6, 7, 9, 10,
         31, 32, 33, 63, 64, 200, 444, 1111, 1 << 16, 444444444, 1111111111, Integer.MAX_VALUE};
+    private static final Pattern HEAD = Pattern.compile("( +)(?!if|for|while|switch|do\\b|else)\\w[^=]*\\(.*\\) \\{");
     private static final String[] FORBIDDEN = {
         "\\b(throw|throws|try|catch|finally|synchronized|assert|import|package|var|record|enum|instanceof)\\b",
         "->", "::", "\\w+Exception\\b", "\\bError\\b", "\\b(equals|hashCode|toString)\\b", "\\bSystem\\.(?!arraycopy)",
@@ -117,6 +118,24 @@ public final class RulesTest {
             Matcher matcher = Pattern.compile(forbidden).matcher(bare);
             DUE.isTrue("no " + forbidden, !matcher.find());
         }
+        methodsAreShort(source.split("\n"));
+    }
+
+    /** Rule 11: some sixty lines. A method ends at the bracket that stands as far in as its head. */
+    private static void methodsAreShort(String[] lines) {
+        int methods = 0;
+        for (int head = 0; head < lines.length; head++) {
+            Matcher matcher = HEAD.matcher(lines[head]);
+            if (matcher.matches()) {
+                int end = head;
+                while (!lines[end].equals(matcher.group(1) + "}")) {
+                    end++;
+                }
+                methods++;
+                DUE.isTrue(lines[head].trim() + " " + (end - head + 1) + " lines", end - head < 60);
+            }
+        }
+        DUE.isTrue("methods that were looked at: " + methods, methods > 23);
     }
 
     /** Rule 7: for any arguments in any state. What throws ends this test, and so does what answers below a refusal. */
